@@ -116,8 +116,10 @@ public final class LineTest {
     }
 
     private static void names() {
-        Desk desk = Desk.with("archive a");
-        String[] none = {".", "a.", ".a", "a..b", "a.b.", "a.b.c.d", "abcde", "a.abcde", "abcde.a", "a.b.abcde", "a,b", "a.B", "a.1"};
+        Desk desk = Desk.with("archive a", "realm r");
+        String[] none = {
+            ".", "a.", ".a", "a..b", "a.b.", "a.b.c.d", "abcde", "a.abcde", "abcde.a", "a.b.abcde", "a,b", "a.B", "a.1",
+        };
         for (String name : none) {
             desk.dueLine("name " + name, ARGUMENT);
             desk.dueLook(0, name, ARGUMENT);
