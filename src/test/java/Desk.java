@@ -1,21 +1,32 @@
+import java.lang.reflect.Field;
+import java.util.List;
 import java.util.NoSuchElementException;
+import java.util.function.IntSupplier;
 
 /** A RealmDesk that is spoken to in whole lines, and the count of answers that were not as due. */
 final class Desk {
     static final int ARGUMENT = -101;
     static final int STATE = -102;
     static final int NO_ELEMENT = -103;
+    /** An exception that the document does not know: it is due nowhere. */
+    static final int OTHER = -104;
     private static final int MOST_CALLS = 512;
 
     private static int wrong = 0;
+    private static String sentence = "";
 
     private final RealmDesk desk = new RealmDesk();
     private int calls = 0;
 
+    /** The document's sentence that the next answers are about; it is told with each that is wrong. */
+    static void about(String words) {
+        sentence = "[" + words + "] ";
+    }
+
     static void due(String what, long got, long want) {
         if (got != want) {
             wrong++;
-            System.out.println(what + " answered " + got + ", due is " + want);
+            System.out.println(sentence + what + " answered " + got + ", due is " + want);
         }
     }
 
@@ -38,26 +49,18 @@ final class Desk {
         return made;
     }
 
-    boolean write(char c) {
-        called();
-        return desk.write(c);
+    int write(char c) {
+        return answer(() -> desk.write(c) ? 1 : 0);
     }
 
     void type(String text) {
         for (int i = 0; i < text.length(); i++) {
-            due("write of '" + text + "' at " + i, write(text.charAt(i)) ? 1 : 0, 1);
+            due("write of '" + text + "' at " + i, write(text.charAt(i)), 1);
         }
     }
 
     int line() {
-        called();
-        try {
-            return desk.line();
-        } catch (IllegalArgumentException e) {
-            return ARGUMENT;
-        } catch (IllegalStateException e) {
-            return STATE;
-        }
+        return answer(desk::line);
     }
 
     int line(String text) {
@@ -66,14 +69,7 @@ final class Desk {
     }
 
     int look(int realm) {
-        called();
-        try {
-            return desk.look(realm);
-        } catch (IllegalArgumentException e) {
-            return ARGUMENT;
-        } catch (NoSuchElementException e) {
-            return NO_ELEMENT;
-        }
+        return answer(() -> desk.look(realm));
     }
 
     int look(int realm, String text) {
@@ -83,42 +79,64 @@ final class Desk {
 
     int realm(String text) {
         type(text);
-        called();
-        return desk.realm();
+        return answer(desk::realm);
     }
 
     int many() {
-        called();
-        return desk.many();
+        return answer(desk::many);
     }
 
     int asked(int i) {
-        called();
-        return desk.asked(i);
+        return answer(() -> desk.asked(i));
     }
 
     int kept(int realm) {
-        called();
-        return desk.kept(realm);
+        return answer(() -> desk.kept(realm));
     }
 
     int used(int archive) {
-        called();
-        return desk.used(archive);
+        return answer(() -> desk.used(archive));
     }
 
-    boolean drop(int realm) {
-        called();
-        return desk.drop(realm);
+    int drop(int realm) {
+        return answer(() -> desk.drop(realm) ? 1 : 0);
     }
 
     int count(int what) {
-        called();
-        return desk.count(what);
+        return answer(() -> desk.count(what));
+    }
+
+    /** Sets a parent from outside, past the lines: these can't make a ring, since a parent is older than its child. */
+    void forceParent(int child, int parent) {
+        try {
+            Field field = RealmDesk.class.getDeclaredField("realms");
+            field.setAccessible(true);
+            List<?> realms = (List<?>) field.get(desk);
+            Field parentField = realms.get(child).getClass().getDeclaredField("parent");
+            parentField.setAccessible(true);
+            parentField.set(realms.get(child), realms.get(parent));
+        } catch (ReflectiveOperationException e) {
+            due("making a ring of realms: " + e, OTHER, 0);
+        }
     }
 
     void dueLine(String text, int want) {
         due("line '" + text + "'", line(text), want);
+    }
+
+    void dueLines(int want, String... texts) {
+        for (String text : texts) {
+            dueLine(text, want);
+        }
+    }
+
+    /** Nothing of what was written is left: an empty line has no parts. */
+    void dueEmpty(String behind) {
+        due("line() behind " + behind, line(), 0);
+    }
+
+    void dueWrite(int c, boolean want) {
+        due("write(" + c + ")", write((char) c), want ? 1 : 0);
     }
 
     void dueLook(int realm, String name, int want) {
@@ -138,6 +156,14 @@ final class Desk {
         due("asked behind the last", asked(want.length), -1);
     }
 
+    void dueAskedAt(int i, int want) {
+        due("asked(" + i + ")", asked(i), want);
+    }
+
+    void dueMany(int want) {
+        due("many()", many(), want);
+    }
+
     void dueKept(int realm, int want) {
         due("kept(" + realm + ")", kept(realm), want);
     }
@@ -151,7 +177,27 @@ final class Desk {
     }
 
     void dueDrop(int realm, boolean want) {
-        due("drop(" + realm + ")", drop(realm) ? 1 : 0, want ? 1 : 0);
+        due("drop(" + realm + ")", drop(realm), want ? 1 : 0);
+    }
+
+    int calls() {
+        return calls;
+    }
+
+    /** The answer of a call, or the number of what it throws. */
+    private int answer(IntSupplier call) {
+        called();
+        try {
+            return call.getAsInt();
+        } catch (RuntimeException e) {
+            return numberOf(e.getClass());
+        }
+    }
+
+    private static int numberOf(Class<?> thrown) {
+        return thrown == IllegalArgumentException.class ? ARGUMENT
+                : thrown == IllegalStateException.class ? STATE
+                : thrown == NoSuchElementException.class ? NO_ELEMENT : OTHER;
     }
 
     /** The document leaves free what calls behind the 512th answer, so a test must not lean on them. */

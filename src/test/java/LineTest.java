@@ -43,16 +43,16 @@ public final class LineTest {
         Desk desk = new Desk();
         int[] good = {32, 33, 46, 65, 97, 125, 126};
         for (int c : good) {
-            Desk.due("write(" + c + ")", desk.write((char) c) ? 1 : 0, 1);
+            desk.dueWrite(c, true);
         }
         int[] bad = {0, 9, 10, 31, 127, 128, 255, 256, 256 + 97, 65535};
         for (int c : bad) {
-            Desk.due("write(" + c + ")", desk.write((char) c) ? 1 : 0, 0);
+            desk.dueWrite(c, false);
         }
         desk = new Desk();
         desk.type("realm a");
-        desk.write((char) 127);
-        desk.write((char) 31);
+        desk.dueWrite(127, false);
+        desk.dueWrite(31, false);
         desk.dueLine("b", 3);
         desk.dueRealm("ab", 0);
     }
@@ -60,11 +60,11 @@ public final class LineTest {
     private static void writeStopsAtThirty() {
         Desk desk = new Desk();
         desk.type("                       realm a");
-        Desk.due("write of the 31st", desk.write('b') ? 1 : 0, 0);
-        Desk.due("write of the 31st", desk.write(' ') ? 1 : 0, 0);
+        desk.dueWrite('b', false);
+        desk.dueWrite(' ', false);
         Desk.due("line of 30", desk.line(), 3);
         desk.dueRealm("a", 0);
-        Desk.due("write behind it", desk.write('b') ? 1 : 0, 1);
+        desk.dueWrite('b', true);
     }
 
     private static void linesWithoutParts() {
